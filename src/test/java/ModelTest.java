@@ -186,7 +186,10 @@ public final class ModelTest {
         return questionDiffers();
     }
 
-    /** These calls are no part of the run: a PairFinder has to stand them at any time. */
+    /**
+     * With these calls a run is longer than the 512 that the document promises for; they change nothing,
+     * and PairFinder does not count its calls, so that the run's own calls answer as they would without them.
+     */
     private boolean stateDiffers() {
         for (int what = -1; what <= 7; what++) {
             int asked = what;
