@@ -111,6 +111,7 @@ public final class FoundEdgeTest {
             lineAgainstTheCube("ends inside", axis, 0, 15.5f, 0.5f);
             lineAgainstTheCube("is inside", axis, 9, 10, 0);
             lineAgainstTheCube("goes through", axis, 0, 31, 0.25f);
+            lineAgainstTheCube("is 1 long", axis, 7, 8, 0.75f);
             lineAgainstTheCube("all there is", axis, -16384, 16384, (7.75f + 16384f) / 32768f);
             Due.sentence("14 meeting", "if a is above b, they are exchanged (the pad need be no box)");
             lineAgainstTheCube("ends at the wide high", axis, 32, 16.25f, 1);
@@ -123,6 +124,14 @@ public final class FoundEdgeTest {
             lineAgainstTheCube("goes through", axis, 24.25f, -7.75f, 0.25f);
             lineAgainstTheCube("all there is", axis, 16384, -16384, (16.25f - 16384f) / -32768f);
         }
+    }
+
+    private static void aNegativeZeroIsNotAboveZero() {
+        Due.sentence("14 meeting", "ENTER becomes a, if that is above it");
+        PairFinder x = Due.after(FoundEdgeTest::cube);
+        Due.line(x, new float[] {16.25f, 12, 12}, new float[] {0, 12, 12});
+        x.meeting(1);
+        Due.holds("ENTER stays 0 where a is -0", 1 / x.where(0) > 0);
     }
 
     private static void meetingWithoutMovement() {
@@ -173,12 +182,19 @@ public final class FoundEdgeTest {
                 Due.same("the least line from the wide high on, axis " + axis, leaving.meeting(1), 1);
             }
         }
-        float[] thirds = {0.1f, 0.2f, 0.3f};
-        float[] far = {14.3f, 15.1f, 13.7f};
-        float a = (7.75f - 0.1f) / (14.3f - 0.1f);
-        float b = (7.75f - 0.2f) / (15.1f - 0.2f);
-        float c = (7.75f - 0.3f) / (13.7f - 0.3f);
-        lineMeets("quotients are floats", thirds, far, Math.max(a, Math.max(b, c)));
+    }
+
+    private static void quotientsAreFloats() {
+        Due.sentence("NUMBERS", "are floats; each difference and quotient is made as it is written here");
+        float on = (7.75f - 0.2f) / (17.6f - 0.2f);
+        Due.holds("float and double can be told apart by this", on != (float) ((7.75 - 0.2f) / ((double) 17.6f - 0.2f)));
+        float back = (16.25f - 17.2f) / (0.3f - 17.2f);
+        Due.holds("and by this", back != (float) ((16.25 - 17.2f) / ((double) 0.3f - 17.2f)));
+        Due.holds("and a quotient from a product", back != (16.25f - 17.2f) * (1 / (0.3f - 17.2f)));
+        for (int axis = 0; axis < 3; axis++) {
+            lineAgainstTheCube("on", axis, 0.2f, 17.6f, on);
+            lineAgainstTheCube("back", axis, 17.2f, 0.3f, back);
+        }
     }
 
     private static void meetingAcross() {
@@ -308,6 +324,10 @@ public final class FoundEdgeTest {
         });
         later.meeting(1);
         Due.same("the least by one float, the lowest of two", later.nearest(), 3);
+        later.remove(3);
+        later.remove(5);
+        later.meeting(1);
+        Due.same("the second of FOUND", later.nearest(), 1);
     }
 
     public static void main(String[] args) {
@@ -315,8 +335,10 @@ public final class FoundEdgeTest {
         groupsOfSearches();
         overlappingRefuses();
         meetingAlongOneAxis();
+        aNegativeZeroIsNotAboveZero();
         meetingWithoutMovement();
         theLeastLine();
+        quotientsAreFloats();
         meetingAcross();
         meetingNoneAndAll();
         foundAndWhere();

@@ -36,6 +36,13 @@ public final class TermsEdgeTest {
         Due.corners("high plus d", y, 1, 9, 0.7f + 0.3f, 0.7f + 0.3f, 0.7f + 0.3f);
         Due.corners("low - 0.25", y, 0, 0, 0.1f - 0.25f, 0.1f - 0.25f, 0.1f - 0.25f);
         Due.corners("high + 0.25", y, 0, 3, 0.7f + 0.25f, 0.7f + 0.25f, 0.7f + 0.25f);
+        PairFinder row = Due.after(z -> z.addRow(512, 0.1f, 0.1f, 0.1f, 1, 1));
+        float sum = 0;
+        for (int behindFirst = 1; behindFirst < 512; behindFirst++) {
+            sum = sum + 0.1f;
+        }
+        Due.holds("sums and a product can be told apart by this", sum != 511 * 0.1f && sum != (float) (511 * (double) 0.1f));
+        Due.corners("a row's last body is made by 511 sums", row, 511, 6, sum, sum, sum, sum, sum, sum);
     }
 
     private static void aBoxMayBeAPoint() {
