@@ -100,8 +100,8 @@ public final class FoundEdgeTest {
     }
 
     private static void meetingAlongOneAxis() {
-        Due.sentence("14 meeting", "ENTER is 0, LEAVE is 1; it is met, if ENTER is not above LEAVE in the end");
         for (int axis = 0; axis < 3; axis++) {
+            Due.sentence("14 meeting", "ENTER is 0, LEAVE is 1; it is met, if ENTER is not above LEAVE in the end");
             lineAgainstTheCube("ends at the wide low", axis, 0, 7.75f, 1);
             lineAgainstTheCube("ends just before it", axis, 0, Math.nextDown(7.75f), -1);
             lineAgainstTheCube("begins at the wide high", axis, 16.25f, 32, 0);
